@@ -204,11 +204,12 @@ public final class WayMarks {
         if (!net.isSet(set)) {
             return IMPOSSIBLE;
         }
-        int pair = freshSight().firstPairLacking(set, net.need());
+        Sight seen = freshSight();
+        int pair = seen.firstPairLacking(set, net.need());
         if (pair != NONE || !net.yesWanted) {
             return pair;
         }
-        int post = sight.firstPostLacking(set, net.need());
+        int post = seen.firstPostLacking(set, net.need());
         return post == NONE ? NONE : CLASH_OF_YES + post;
     }
 
@@ -244,9 +245,10 @@ public final class WayMarks {
     }
 
     public int greedy() {
+        Sight seen = freshSight();
         int need = net.need();
-        int set = freshSight().greedySet(need);
-        int lacking = sight.countPairsLacking(set, need);
+        int set = seen.greedySet(need);
+        int lacking = seen.countPairsLacking(set, need);
         if (lacking > 0) {
             return IMPOSSIBLE - lacking;
         }
@@ -330,11 +332,12 @@ public final class WayMarks {
     }
 
     public int tree() {
-        boolean onePiece = freshSight().countReachedFrom(0) == net.posts;
+        Sight seen = freshSight();
+        boolean onePiece = seen.countReachedFrom(0) == net.posts;
         if (!onePiece || net.countRoads() != net.posts - 1) {
             return NONE;
         }
-        return net.posts == 1 ? 0 : numberOfTree();
+        return seen.leavesLessKnots();
     }
 
     public int undo(int n) {
@@ -413,37 +416,6 @@ public final class WayMarks {
 
     private boolean canBeAsked(int x) {
         return net.isSet(x) && Integer.bitCount(x) <= MOST_ASKED;
-    }
-
-    private int numberOfTree() {
-        int leaves = 0;
-        int knots = 0;
-        for (int p = 0; p < net.posts; p++) {
-            if (sight.countBeside(p) == 1) {
-                leaves++;
-                knots |= knotOfLeaf(p);
-            }
-        }
-        return knots == 0 ? 1 : leaves - Integer.bitCount(knots);
-    }
-
-    /** The knot that a leaf of a tree leads to, as a bit; 0 if it leads to a leaf. */
-    private int knotOfLeaf(int leaf) {
-        int back = 1 << leaf;
-        int ahead = sight.beside[leaf];
-        for (int step = 0; step < net.posts; step++) {
-            int post = Integer.numberOfTrailingZeros(ahead);
-            if (!net.isPost(post)) {
-                return 0;
-            }
-            if (sight.countBeside(post) >= 3) {
-                return ahead;
-            }
-            int onward = sight.beside[post] & ~back;
-            back = ahead;
-            ahead = onward;
-        }
-        return 0;
     }
 
     /** All that acts change. */
@@ -714,6 +686,39 @@ public final class WayMarks {
                 }
             }
             return count;
+        }
+
+        /** The number of a tree; asks that the net be one. */
+        private int leavesLessKnots() {
+            int leaves = 0;
+            int knots = 0;
+            for (int p = 0; p < posts; p++) {
+                if (countBeside(p) == 1) {
+                    leaves++;
+                    knots |= knotOfLeaf(p);
+                }
+            }
+            boolean isLine = leaves > 0 && knots == 0;
+            return isLine ? 1 : leaves - Integer.bitCount(knots);
+        }
+
+        /** The knot that a leaf of a tree leads to, as a bit; 0 if it leads to a leaf. */
+        private int knotOfLeaf(int leaf) {
+            int back = 1 << leaf;
+            int ahead = beside[leaf];
+            for (int step = 0; step < posts; step++) {
+                int post = Integer.numberOfTrailingZeros(ahead);
+                if (post >= posts) {
+                    return 0;
+                }
+                if (countBeside(post) >= 3) {
+                    return ahead;
+                }
+                int onward = beside[post] & ~back;
+                back = ahead;
+                ahead = onward;
+            }
+            return 0;
         }
 
         private boolean areTwins(int a, int b) {
