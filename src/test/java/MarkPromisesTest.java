@@ -40,6 +40,10 @@ public final class MarkPromisesTest {
         y.may(0, false);
         due.is("beside: a pair comes before a yes", y.clash(0), 1);
         due.is("beside: no mark lies beside 2", y.clash(7), 1002);
+        WayMarks none = Nets.empty(2);
+        none.rule(2, 0);
+        none.want(true);
+        due.is("beside: no yes for 0", none.clash(3), 1000);
     }
 
     private static void twins() {
@@ -72,6 +76,8 @@ public final class MarkPromisesTest {
         due.is("line set()", line.set(), 1);
         due.promise(20);
         due.is("ring every()", ring.every(), 4);
+        ring.price(0, 9);
+        due.is("whatever the prices", ring.every(), 4);
         due.is("full every()", full.every(), 4);
         due.is("line every()", line.every(), 2);
         line.may(3, true);
@@ -223,6 +229,8 @@ public final class MarkPromisesTest {
         x.may(1, true);
         due.is("one may lie", x.fits(), 1);
         due.promise(29);
+        due.is("without words", Nets.line(3).where(2), 2);
+        due.is("as many as posts", Nets.line(3).where(3), -1);
         due.is("where(0)", x.where(0), 1);
         due.is("where(1)", x.where(1), -1);
         due.is("where(-1)", x.where(-1), -1);
@@ -266,6 +274,9 @@ public final class MarkPromisesTest {
         due.is("mean(15)", x.mean(15), 9);
         x.chance(3, 100);
         due.is("mean(15): 3 first", x.mean(15), 108);
+        due.promise(32);
+        due.is("next(15) goes by the worst", x.next(15), 0);
+        due.promise(33);
         for (int p = 0; p < 4; p++) {
             x.chance(p, 0);
         }
@@ -274,8 +285,6 @@ public final class MarkPromisesTest {
         due.is("mean(8)", x.mean(8), 0);
         due.is("mean(16)", x.mean(16), -1);
         due.is("mean(-1)", x.mean(-1), -1);
-        due.promise(32);
-        due.is("next(15) goes by the worst", x.next(15), 0);
 
         WayMarks star = Nets.star(3);
         star.rule(2, 0);
@@ -341,6 +350,7 @@ public final class MarkPromisesTest {
         due.is("line of 16", Nets.line(16).tree(), 1);
         due.is("star of 3", Nets.star(3).tree(), 2);
         due.is("star of 15", Nets.star(15).tree(), 14);
+        due.is("star whose middle is 1", Nets.of(4, 0, 1, 1, 2, 1, 3).tree(), 2);
         due.is("legs of two", Nets.of(7, 0, 1, 1, 2, 0, 3, 3, 4, 0, 5, 5, 6).tree(), 2);
         due.is("two knots", Nets.of(6, 0, 1, 0, 2, 0, 3, 1, 4, 1, 5).tree(), 2);
         WayMarks inner = Nets.of(10, 0, 1, 0, 2, 0, 3, 1, 4, 1, 5, 2, 6, 2, 7, 3, 8, 3, 9);
@@ -355,7 +365,45 @@ public final class MarkPromisesTest {
         due.is("whatever the kind and need", y.tree(), 1);
     }
 
+    /** Only the mark at 0, which shines on itself alone, parts the two. */
+    private static void oneMarkParts() {
+        WayMarks x = Nets.line(2);
+        x.rule(4, 0);
+        x.reach(1, 1);
+        due.promise(31);
+        due.is("worst(3)", x.worst(3), 1);
+        due.promise(32);
+        due.is("next(3)", x.next(3), 0);
+        due.promise(33);
+        due.is("mean(3)", x.mean(3), 2);
+        due.promise(34);
+        due.is("seek(3)", x.seek(3), 1);
+    }
+
+    /** What was seen of a post that is undone counts no more. */
+    private static void afterUndo() {
+        due.promise(36);
+        WayMarks x = Nets.empty(4);
+        x.clash(0);
+        x.undo(1);
+        due.is("clash(3)", x.clash(3), -1);
+        due.is("clash(8)", x.clash(8), -2);
+        due.is("least()", x.least(), 2);
+        due.is("every()", x.every(), 3);
+        due.is("shown()", x.shown(), 1);
+        due.is("pair(1)", x.pair(1), -1);
+        due.is("greedy()", x.greedy(), 2);
+        due.is("worst(7)", x.worst(7), 2);
+        due.is("worst(8)", x.worst(8), -1);
+        due.is("seek(8)", x.seek(8), -1);
+        x.rule(2, 0);
+        due.is("twins(2)", x.twins(2), 18);
+        due.is("twins(3)", x.twins(3), -1);
+    }
+
     public static void main(String[] args) {
+        oneMarkParts();
+        afterUndo();
         parts();
         clash();
         twins();

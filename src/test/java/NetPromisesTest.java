@@ -238,6 +238,7 @@ public final class NetPromisesTest {
         }
         due.promise(13);
         due.is("the longest way", far.way(15, 0), 15000);
+        due.is("over 0", Nets.star(2).way(1, 2), 2);
     }
 
     private static void answers() {
