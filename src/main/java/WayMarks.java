@@ -852,6 +852,8 @@ public final class WayMarks {
      * twins and, if yes is wanted, the marks that say yes for each post.
      */
     private static final class Choice {
+        private static final int ABOVE_ALL_SUMS = 1000000;
+
         private final int[] demands = new int[SQUARE];
         private int demandCount = 0;
         private int need = 1;
@@ -872,7 +874,7 @@ public final class WayMarks {
                 leastCost = Math.min(leastCost, costs[p]);
             }
             gatherDemands(net, sight);
-            bestSum = Integer.MAX_VALUE;
+            bestSum = ABOVE_ALL_SUMS;
             bestSet = 0;
             bestCount = 0;
             decide(0, (1 << net.posts) - 1, 0, 0);
