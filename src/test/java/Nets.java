@@ -42,4 +42,31 @@ final class Nets {
         }
         return x;
     }
+
+    /** Three posts of which nothing is as at first, and two roads on the tape that can come. */
+    static WayMarks busy() {
+        WayMarks x = empty(3);
+        x.least();
+        x.feed(0x00020005, 0x01020006, 0, 0, 0);
+        x.road(0, 1, 2);
+        x.reach(1, 5);
+        x.price(2, 7);
+        x.chance(0, 9);
+        x.rule(3, 2);
+        x.may(1, true);
+        x.want(true);
+        x.word(1, 4);
+        return x;
+    }
+
+    /** Sixteen posts and 120 roads, those beside one another of length 1 and others of 1000. */
+    static WayMarks full() {
+        WayMarks x = empty(16);
+        for (int a = 0; a < 16; a++) {
+            for (int b = a + 1; b < 16; b++) {
+                x.road(a, b, b == a + 1 ? 1 : 1000);
+            }
+        }
+        return x;
+    }
 }
