@@ -270,6 +270,12 @@ public final class MarkEdgesTest {
         WayMarks back = Nets.of(4, 3, 0, 3, 1, 3, 2);
         due.is("its middle is the last", back.least(), 2);
         due.is("0 and 1", back.set(), 3);
+        // Round the ring 0 - 3 - 2 - 1 - 4 by NEAR any three in a row tell all, and no other three do.
+        WayMarks ring = Nets.of(5, 0, 3, 3, 2, 2, 1, 1, 4, 4, 0);
+        ring.rule(1, 0);
+        due.is("ring by near, least()", ring.least(), 3);
+        due.is("ring by near, 0, 2 and 3", ring.set(), 13);
+        due.is("ring by near, every()", ring.every(), 5);
     }
 
     private static void everyWithout() {
@@ -425,6 +431,18 @@ public final class MarkEdgesTest {
         due.is("whatever is needed", x.shown(), 8);
     }
 
+    private static void shownSharesWithNoneBefore() {
+        due.sentence(23, "no POST PARTS it that PARTS one taken already, be it the latest or an older one");
+        // By BESIDE 6 parts 0 and 1, and 7 parts 1 and 2; then 6 again parts 1 and 4, which is not taken.
+        WayMarks x = Nets.of(8, 0, 6, 4, 6, 2, 7);
+        x.rule(2, 0);
+        due.is("shown()", x.shown(), 4);
+        int[] pairs = {1, 16 + 2, 16 + 6, 16 + 7, -1};
+        for (int k = 0; k < pairs.length; k++) {
+            due.is("pair(" + k + ")", x.pair(k), pairs[k]);
+        }
+    }
+
     private static void pairsInOrder() {
         due.sentence(24, "The k-th pair that is SHOWN");
         WayMarks x = Nets.empty(16);
@@ -540,6 +558,18 @@ public final class MarkEdgesTest {
         due.is("word(15, 2) when it is undone", x.word(15, 2), 1);
         x.clear();
         due.is("word(15, 3) when all are cleared", x.word(15, 3), 1);
+    }
+
+    private static void wordThatIsBack() {
+        due.sentence(26, "A WORD that another took the place of is back when that is undone");
+        WayMarks x = Nets.line(3);
+        x.word(0, 2);
+        x.clear();
+        x.word(0, 1);
+        due.is("where(0)", x.where(0), 1);
+        due.is("undo(2)", x.undo(2), 2);
+        due.is("where(0) as before", x.where(0), 2);
+        due.is("against(1)", x.against(1), 1);
     }
 
     private static void clearOfNone() {
@@ -817,6 +847,31 @@ public final class MarkEdgesTest {
         due.is("mean(7)", x.mean(7), 5);
     }
 
+    private static void askingAfterOtherAnswers() {
+        String said = "of X those stay for which it ANSWERS so, as the net is now";
+        WayMarks x = Nets.empty(4);
+        x.road(0, 1, 1);
+        x.road(0, 2, 2);
+        x.road(0, 3, 2);
+        x.road(2, 3, 1);
+        due.sentence(31, said);
+        due.is("worst(15)", x.worst(15), 1);
+        due.sentence(34, said);
+        due.is("seek(15)", x.seek(15), 1);
+        // Now it is the line 1 - 0 - 2 - 3, where by NEAR the mark at 0 alone parts 2 and 3.
+        x.cut(0, 3);
+        x.rule(1, 0);
+        due.is("seek(12) after cut and rule", x.seek(12), 1);
+        due.sentence(31, said);
+        due.is("worst(15) after cut and rule", x.worst(15), 2);
+        due.sentence(32, said);
+        due.is("next(15) after cut and rule", x.next(15), 1);
+        due.sentence(33, said);
+        due.is("mean(15) after cut and rule", x.mean(15), 8);
+        x.undo(2);
+        due.is("mean(15) after undo", x.mean(15), 4);
+    }
+
     // Promise 34
 
     private static void seekOfOneOrNone() {
@@ -930,6 +985,21 @@ public final class MarkEdgesTest {
             12, 13, 13, 14, 14, 15);
         due.is("two knots far apart", two.tree(), 2);
         due.is("least()", two.least(), 2);
+        due.is("legs whose leaves are less than the knot", Nets.of(7, 0, 3, 3, 6, 1, 4, 4, 6, 2, 5, 5, 6).tree(), 2);
+        due.is("one leg beside two leaves", Nets.of(6, 0, 1, 1, 2, 2, 3, 3, 4, 3, 5).tree(), 2);
+        due.is("a star whose leaves are less", Nets.of(5, 4, 0, 4, 1, 4, 2, 4, 3).tree(), 3);
+    }
+
+    private static void treeOfTheLongestLeg() {
+        due.sentence(35, "some LEAF leads to by POSTS with two ROADS alone, by as many as there can be");
+        WayMarks x = Nets.line(15);
+        x.post();
+        x.road(13, 15, 1);
+        due.is("a leg of 13, 0 its leaf", x.tree(), 2);
+        WayMarks y = Nets.line(15);
+        y.post();
+        y.road(1, 15, 1);
+        due.is("a leg of 13, 14 its leaf", y.tree(), 2);
     }
 
     private static void treeWithAnInnerOne() {
@@ -997,6 +1067,7 @@ public final class MarkEdgesTest {
         setOfTheLatest();
         shownOfNone();
         shownOfMost();
+        shownSharesWithNoneBefore();
         pairsInOrder();
         pairOfNoneSuch();
         greedyOfNone();
@@ -1010,6 +1081,7 @@ public final class MarkEdgesTest {
         wordOfAnyNumber();
         wordOfNoPost();
         wordWhereThereIsOne();
+        wordThatIsBack();
         clearOfNone();
         fitsOfNoWords();
         fitsAsManyAsMayLie();
@@ -1030,6 +1102,7 @@ public final class MarkEdgesTest {
         askingOfAMarkOutsideX();
         meanOfChancesAtTheirEnds();
         meanWithoutNeed();
+        askingAfterOtherAnswers();
         seekOfOneOrNone();
         seekInTen();
         seekInMoreThanTen();
@@ -1044,6 +1117,7 @@ public final class MarkEdgesTest {
         treeOfALine();
         treeOfAStar();
         treeOfLegs();
+        treeOfTheLongestLeg();
         treeWithAnInnerOne();
         treeOfAnyLengths();
         treeThatIsNone();

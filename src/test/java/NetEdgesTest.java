@@ -243,6 +243,15 @@ public final class NetEdgesTest {
         }
     }
 
+    private static void feedOfAnyFirstByte() {
+        due.sentence(5, "the highest of each first, of the TAPE's first byte too");
+        WayMarks x = Nets.empty(16);
+        x.feed(0x0f0e0102, 0, 0, 0, 0);
+        due.is("roads(4)", x.roads(4), 1);
+        due.is("way(14, 15)", x.way(14, 15), 0x102);
+        due.is("of(0, 0)", x.of(0, 0), 0);
+    }
+
     private static void feedOfHighBytes() {
         due.sentence(5, "bytes, also those above 127");
         WayMarks x = Nets.empty(3);
@@ -862,6 +871,7 @@ public final class NetEdgesTest {
         feedUntilFull();
         feedBeyondFull();
         feedIsInOrder();
+        feedOfAnyFirstByte();
         feedOfHighBytes();
         roadsOfAllOfTheTape();
         roadsEmptyTheTape();
