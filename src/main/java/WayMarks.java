@@ -516,16 +516,22 @@ public final class WayMarks {
         }
 
         private void keep(Net now) {
-            kept[top].become(now);
-            top = (top + 1) % MOST_UNDONE;
-            count = Math.min(count + 1, MOST_UNDONE);
+            Net place = kept[top];
+            if (place != null) {
+                place.become(now);
+                top = (top + 1) % MOST_UNDONE;
+                count = Math.min(count + 1, MOST_UNDONE);
+            }
         }
 
         /** Asks that n be at most count. */
         private void goBack(Net now, int n) {
             top = Math.floorMod(top - n, MOST_UNDONE);
             count -= n;
-            now.become(kept[top]);
+            Net then = kept[top];
+            if (then != null) {
+                now.become(then);
+            }
         }
     }
 

@@ -44,7 +44,7 @@ public final class FaceTest {
         return text.append(')').toString();
     }
 
-    private static Set<String> checkFace() {
+    private static Set<String> checkFace() throws ReflectiveOperationException {
         Set<String> names = new TreeSet<>();
         Set<String> due = new TreeSet<>(List.of(FACE));
         Set<String> there = new TreeSet<>();
@@ -65,7 +65,16 @@ public final class FaceTest {
             boolean isPrivate = Modifier.isPrivate(f.getModifiers());
             check(isPrivate || f.getName().equals("NONE"), f.getName() + " is not private");
         }
+        checkNone();
         return names;
+    }
+
+    /** By reflection, since the compiler would put the constant's own number here. */
+    private static void checkNone() throws ReflectiveOperationException {
+        Field none = WayMarks.class.getField("NONE");
+        int kinds = Modifier.PUBLIC | Modifier.STATIC | Modifier.FINAL;
+        check(none.getType() == int.class && none.getModifiers() == kinds && none.getInt(null) == -1,
+            "NONE is another");
     }
 
     private static void checkClass(Class<?> c, Set<String> publicNames) {
@@ -83,6 +92,25 @@ public final class FaceTest {
         }
     }
 
+    /** A method begins with its head and ends with the bracket that stands as far in. */
+    private static void checkLengths(String source) {
+        String[] lines = source.split("\n");
+        Pattern head = Pattern.compile("( {4}| {8})(public|private) [^=;]*\\) \\{");
+        int methods = 0;
+        for (int i = 0; i < lines.length; i++) {
+            Matcher found = head.matcher(lines[i]);
+            if (found.matches()) {
+                int end = i;
+                while (end < lines.length && !lines[end].equals(found.group(1) + "}")) {
+                    end++;
+                }
+                methods++;
+                check(end - i < 60, lines[i].trim() + " has " + (end - i + 1) + " lines");
+            }
+        }
+        check(methods > 36, "only " + methods + " methods were found");
+    }
+
     private static void checkSource() throws java.io.IOException {
         String source = Files.readString(Path.of("src/main/java/WayMarks.java"));
         String code = source.replaceAll("(?s)/\\*.*?\\*/", "").replaceAll("//[^\n]*", "");
@@ -96,10 +124,12 @@ public final class FaceTest {
             check(imports.group(1).matches("java\\.util\\.(Arrays|ArrayList|List|Iterator)"),
                 "the code imports " + imports.group(1));
         }
+        checkLengths(source);
         check(source.chars().allMatch(sign -> sign < 128), "the source has signs beyond 127");
     }
 
-    public static void main(String[] args) throws java.io.IOException {
+    public static void main(String[] args)
+            throws java.io.IOException, ReflectiveOperationException {
         Set<String> publicNames = checkFace();
         checkClass(WayMarks.class, publicNames);
         Class<?>[] inside = WayMarks.class.getDeclaredClasses();
